@@ -11,13 +11,24 @@ final class Maker {
     static final int CLAMPSUB = 10;
     static final int LESS = 11;
     static final int SAME = 12;
-    static final int COUNT = 300;
-    static final int ABSENT = 400;
     static final int MIN = Integer.MIN_VALUE;
     static final int MAX = Integer.MAX_VALUE;
     static final long TWO_31 = 1L << 31;
 
     final StagedCompiler x = new StagedCompiler();
+
+    /** Numbers on both sides out of low .. high: the nearest, and the farthest. */
+    static int[] outOf(int low, int high) {
+        return new int[] {MIN, low - 1, high + 1, MAX};
+    }
+
+    static long low(int type) {
+        return type > 0 ? -(1L << (type - 1)) : 0;
+    }
+
+    static long high(int type) {
+        return type > 0 ? (1L << (type - 1)) - 1 : type == 0 ? 1 : (1L << -type) - 1;
+    }
 
     private int made(int n) {
         if (n < 0) {
@@ -67,10 +78,20 @@ final class Maker {
         return pair(LESS, number(1), number(0));
     }
 
+    /** A node that is error DIVISION, if it is looked at. */
+    int broken() {
+        return pair(DIV, number(1), number(0));
+    }
+
     void function(int f, int first, int second, int result, int body) {
         if (x.define(f, first, second, result, body) != 0) {
             throw new IllegalStateException("the test makes a function that is refused");
         }
+    }
+
+    /** Function 0 without parameters, with a TRUTH as its body that has looked at node n. */
+    void looksAt(int n) {
+        function(0, 400, 400, 0, pair(SAME, n, n));
     }
 
     /** Asks that function 0 compiles to so many instances, with no error. */
@@ -85,5 +106,14 @@ final class Maker {
         Sheet.due(what + ": compile", x.compile(0, v, w), error);
         Sheet.due(what + ": errorAt", x.errorAt(), 64 * f + n);
         Sheet.due(what + ": count(2)", x.count(2), 0);
+    }
+
+    /** Asks for compile's answer: the error at a node of function 0, or, if it is 0, so many instances. */
+    void answers(String what, int v, int w, int error, int n, int instances) {
+        if (error == 0) {
+            compiles(what, v, w, instances);
+        } else {
+            fails(what, v, w, error, 0, n);
+        }
     }
 }
