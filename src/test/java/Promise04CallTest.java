@@ -185,6 +185,8 @@ public final class Promise04CallTest {
         m = new Maker();
         both(m, 300, 300, m.number(0), m.parameter(0), TYPE);
         m = new Maker();
+        both(m, 101, 300, m.number(0), m.cast(m.number(0), 8), TYPE);
+        m = new Maker();
         int n = m.call(1, m.parameter(0), m.number(0));
         m.function(0, 8, 400, 8, n);
         m.function(1, 300, 300, 101, m.number(0));

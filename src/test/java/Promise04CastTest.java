@@ -24,11 +24,12 @@ public final class Promise04CastTest {
         for (int code : new int[] {1, 8, 31, -1, -8, -31}) {
             Maker m = new Maker();
             int n = m.cast(m.parameter(0), code);
-            m.function(0, 0, 400, code, n);
+            // not the body, so that no error of the body against the result can stand in
+            m.function(0, 0, 400, 0, m.pair(Maker.SAME, n, n));
             m.fails("a parameter to " + code, 0, 0, TYPE, 0, n);
             m = new Maker();
             n = m.cast(m.no(), code);
-            m.function(0, 400, 400, code, n);
+            m.looksAt(n);
             m.fails("a KNOWN one to " + code, 0, 0, TYPE, 0, n);
         }
     }
@@ -75,7 +76,7 @@ public final class Promise04CastTest {
     private static void typeBeforeWidth() {
         Maker m = new Maker();
         int n = m.cast(m.yes(), 100);
-        m.function(0, 300, 400, 8, n);
+        m.function(0, 300, 400, 0, m.pair(Maker.SAME, n, n));
         m.fails("of width 0", 0, 0, TYPE, 0, n);
         m.fails("of width 32", 32, 0, TYPE, 0, n);
     }
@@ -165,22 +166,22 @@ public final class Promise04CastTest {
     private static void widthOfTruth() {
         Maker m = new Maker();
         int n = m.width(m.parameter(0));
-        m.function(0, 0, 400, 8, n);
+        m.function(0, 0, 400, 0, m.pair(Maker.SAME, n, n));
         m.fails("a parameter", 0, 0, TYPE, 0, n);
         m = new Maker();
         n = m.width(m.yes());
-        m.function(0, 400, 400, 8, n);
+        m.looksAt(n);
         m.fails("a KNOWN one", 0, 0, TYPE, 0, n);
     }
 
     private static void widthOfCount() {
         Maker m = new Maker();
         int n = m.width(m.parameter(0));
-        m.function(0, 300, 400, 8, n);
+        m.function(0, 300, 400, 0, m.pair(Maker.SAME, n, n));
         m.fails("a parameter", 5, 0, TYPE, 0, n);
         m = new Maker();
         n = m.width(m.number(5));
-        m.function(0, 400, 400, 8, n);
+        m.looksAt(n);
         m.fails("a NUMBER", 0, 0, TYPE, 0, n);
     }
 }

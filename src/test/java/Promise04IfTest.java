@@ -22,13 +22,14 @@ public final class Promise04IfTest {
                 Maker m = new Maker();
                 int broken = m.broken();
                 int n = m.choose(m.parameter(0), broken, broken);
-                m.function(0, code, 400, 8, n);
+                // not the body, so that no error of the body against the result can stand in
+                m.function(0, code, 400, 0, m.pair(Maker.SAME, n, n));
                 m.fails("IF of " + code, value, 0, TYPE, 0, n);
             }
         }
         Maker m = new Maker();
         int n = m.choose(m.cast(m.number(1), -1), m.number(1), m.number(2));
-        m.function(0, 400, 400, 8, n);
+        m.looksAt(n);
         m.fails("IF of a KNOWN UNSIGNED 1", 0, 0, TYPE, 0, n);
     }
 

@@ -21,6 +21,9 @@ public final class Promise04InstanceTest {
         Sheet.test("Promise 4: 20 are there: QUOTA", Promise04InstanceTest::quota);
         Sheet.test("Promise 4: 20 are there and one is like it: no QUOTA", Promise04InstanceTest::likeIt);
         Sheet.test("Promise 4: QUOTA comes before WIDTH", Promise04InstanceTest::quotaBeforeWidth);
+        Sheet.test("Promise 4: TYPE for a COUNT parameter comes before QUOTA",
+            Promise04InstanceTest::countsBeforeQuota);
+        Sheet.test("Promise 4: QUOTA comes before the other arguments", Promise04InstanceTest::quotaFirst);
         Sheet.finish();
     }
 
@@ -197,13 +200,17 @@ public final class Promise04InstanceTest {
      */
     private static Maker countUp(int last) {
         Maker m = new Maker();
-        int p = m.parameter(0);
-        int zero = m.number(0);
-        int isLast = m.pair(Maker.LESS, m.number(19), p);
-        int next = m.call(0, m.pair(Maker.ADD, p, m.number(1)), zero);
-        int end = m.call(0, m.number(last), zero);
-        m.function(0, 300, 100, 8, m.choose(isLast, end, next));
+        endsWith(m, m.number(last), m.number(0));
         return m;
+    }
+
+    /** The nodes are arguments of the last CALL, the last node but one. */
+    private static void endsWith(Maker m, int first, int second) {
+        int p = m.parameter(0);
+        int isLast = m.pair(Maker.LESS, m.number(19), p);
+        int next = m.call(0, m.pair(Maker.ADD, p, m.number(1)), m.number(0));
+        int end = m.call(0, first, second);
+        m.function(0, 300, 100, 8, m.choose(isLast, end, next));
     }
 
     private static void likeIt() {
@@ -220,5 +227,26 @@ public final class Promise04InstanceTest {
             m.fails("20 are there, and the width is bad", 1, 0, QUOTA, 0, m.x.count(0) - 2);
             m.fails("19 are there", 2, 0, WIDTH, 0, m.x.count(0) - 2);
         }
+    }
+
+    private static void countsBeforeQuota() {
+        Maker m = new Maker();
+        endsWith(m, m.yes(), m.number(0));
+        m.fails("a TRUTH", 1, 0, StagedCompiler.TYPE, 0, m.x.count(0) - 2);
+        m = new Maker();
+        endsWith(m, m.cast(m.number(21), 8), m.number(0));
+        m.fails("a KNOWN one of an INT type", 1, 0, StagedCompiler.TYPE, 0, m.x.count(0) - 2);
+    }
+
+    private static void quotaFirst() {
+        int[][] rows = {{21, QUOTA}, {20, StagedCompiler.RANGE}};
+        for (int[] row : rows) {
+            Maker m = new Maker();
+            endsWith(m, m.number(row[0]), m.number(Maker.MAX));
+            m.fails("RANGE, with " + row[0], 1, 0, row[1], 0, m.x.count(0) - 2);
+        }
+        Maker m = new Maker();
+        endsWith(m, m.number(21), m.yes());
+        m.fails("TYPE", 1, 0, QUOTA, 0, m.x.count(0) - 2);
     }
 }

@@ -1,7 +1,11 @@
+import java.util.function.ToIntFunction;
+
 /** Promise 5: errorAt. */
 public final class Promise05ErrorAtTest {
     private static final int WIDTH = StagedCompiler.WIDTH;
     private static final int RANGE = StagedCompiler.RANGE;
+    private static final int TYPE = StagedCompiler.TYPE;
+    private static final int CALL = StagedCompiler.CALL;
 
     public static void main(String[] args) {
         Sheet.test("Promise 5: -1 at first", Promise05ErrorAtTest::atFirst);
@@ -10,6 +14,8 @@ public final class Promise05ErrorAtTest {
         Sheet.test("Promise 5: other calls change nothing", Promise05ErrorAtTest::otherCalls);
         Sheet.test("Promise 5: 64 * function + node, from 0 to 64 * 7 + 59", Promise05ErrorAtTest::ends);
         Sheet.test("Promise 5: its function is the one of the instance", Promise05ErrorAtTest::functions);
+        Sheet.test("Promise 5: its function, for an error of a node that is no CALL", Promise05ErrorAtTest::ownErrors);
+        Sheet.test("Promise 5: its function, for an error of a CALL", Promise05ErrorAtTest::callErrors);
         Sheet.test("Promise 5: the node that was being LOOKED AT", Promise05ErrorAtTest::underEachOperand);
         Sheet.test("Promise 5: errors of the body against the result are at the body", Promise05ErrorAtTest::bodies);
         Sheet.test("Promise 5: a WIDTH of compile's own instance: 63", Promise05ErrorAtTest::ownWidth);
@@ -97,6 +103,58 @@ public final class Promise05ErrorAtTest {
         }
     }
 
+    /**
+     * Function 0 calls function 5, which looks at the node that is made here and finds its error. Its
+     * parameters are a TRUTH and none; functions 4, 3 and 2 are there to be called wrongly.
+     */
+    private static void inCalled(String what, int error, ToIntFunction<Maker> make) {
+        Maker m = new Maker();
+        int n = make.applyAsInt(m);
+        m.function(5, 0, 400, 0, m.pair(Maker.SAME, n, n));
+        m.function(4, 300, 400, 100, m.number(0));
+        m.function(3, 300, 0, 8, m.number(0));
+        m.function(2, 8, 400, 8, m.number(0));
+        m.function(0, 400, 400, 0, m.call(5, m.yes(), -1));
+        m.fails(what, 0, 0, error, 5, n);
+    }
+
+    private static int truth(Maker m) {
+        return m.parameter(0);
+    }
+
+    private static int eight(Maker m) {
+        return m.cast(m.number(1), 8);
+    }
+
+    private static void ownErrors() {
+        inCalled("no parameter", TYPE, m -> m.parameter(1));
+        inCalled("not fitted", TYPE, m -> m.pair(Maker.ADD, m.number(1), truth(m)));
+        inCalled("fitted, not in the range", RANGE, m -> m.pair(Maker.ADD, m.number(500), eight(m)));
+        inCalled("two TRUTHs", TYPE, m -> m.pair(Maker.ADD, truth(m), truth(m)));
+        inCalled("two COUNTs", TYPE, m -> m.pair(Maker.WRAPADD, m.number(1), m.number(1)));
+        inCalled("a KNOWN OVERFLOW", RANGE, m -> m.pair(Maker.MUL, m.number(Maker.MAX), m.number(2)));
+        inCalled("DIV by 0", StagedCompiler.DIVISION, Maker::broken);
+        inCalled("IF of a COUNT", TYPE, m -> m.choose(m.number(1), m.number(1), m.number(1)));
+        inCalled("IF of two COUNTs", TYPE, m -> m.choose(truth(m), m.number(1), m.number(1)));
+        inCalled("IF of two types", TYPE, m -> m.choose(truth(m), eight(m), truth(m)));
+        inCalled("IF, not in the range", RANGE, m -> m.choose(truth(m), eight(m), m.number(500)));
+        inCalled("CAST of TRUTH", TYPE, m -> m.cast(truth(m), 8));
+        inCalled("CAST by no COUNT", WIDTH, m -> m.cast(m.number(1), 101));
+        inCalled("CAST, not in the range", RANGE, m -> m.cast(m.number(500), 8));
+        inCalled("WIDTH of TRUTH", TYPE, m -> m.width(truth(m)));
+        inCalled("WIDTH of COUNT", TYPE, m -> m.width(m.number(1)));
+    }
+
+    private static void callErrors() {
+        inCalled("not defined", CALL, m -> m.call(7, -1, -1));
+        inCalled("not given", CALL, m -> m.call(2, -1, -1));
+        inCalled("needless", CALL, m -> m.call(2, m.number(1), m.number(1)));
+        inCalled("not COUNT", TYPE, m -> m.call(3, truth(m), truth(m)));
+        inCalled("another TYPE", TYPE, m -> m.call(3, m.number(1), m.number(1)));
+        inCalled("not in the range", RANGE, m -> m.call(2, m.number(500), -1));
+        inCalled("a bad width", WIDTH, m -> m.call(4, m.number(0), -1));
+    }
+
     /** A node that is bad under each operand of each kind is where the error is, not what is above. */
     private static void underEachOperand() {
         for (int kind = 2; kind <= 16; kind++) {
@@ -135,7 +193,7 @@ public final class Promise05ErrorAtTest {
             int body = m.parameter(0);
             m.function(0, 8, 400, 9, m.call(f, m.number(1), -1));
             m.function(f, 8, 400, 9, body);
-            m.fails("TYPE", 0, 0, StagedCompiler.TYPE, f, body);
+            m.fails("TYPE", 0, 0, TYPE, f, body);
             m = new Maker();
             body = m.number(500);
             m.function(0, 8, 400, 9, m.call(f, m.number(1), -1));
