@@ -50,7 +50,7 @@ public final class Promise04CastTest {
             for (int w = 1; w <= 31; w++) {
                 by(code, w, 0);
             }
-            for (int bad : new int[] {Maker.MIN, -31, -1, 0, 32, Maker.MAX}) {
+            for (int bad : new int[] {Maker.MIN, -31, -1, 0, 32, 257, 65567, Maker.MAX}) {
                 by(code, bad, WIDTH);
             }
         }

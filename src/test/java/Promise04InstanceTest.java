@@ -2,7 +2,7 @@
 public final class Promise04InstanceTest {
     private static final int WIDTH = StagedCompiler.WIDTH;
     private static final int QUOTA = StagedCompiler.QUOTA;
-    private static final int[] VALUES = {Maker.MIN, -31, -1, 0, 1, 2, 30, 31, 32, Maker.MAX};
+    private static final int[] VALUES = {Maker.MIN, -31, -1, 0, 1, 2, 30, 31, 32, 257, 65567, Maker.MAX};
 
     public static void main(String[] args) {
         Sheet.test("Promise 4: the width of a first parameter is not 1 .. 31: WIDTH",

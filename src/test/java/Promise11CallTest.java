@@ -115,29 +115,43 @@ public final class Promise11CallTest {
     }
 
     private static void callsInArguments() {
-        Maker m = new Maker();
-        int p = m.parameter(0);
-        int n = p;
-        for (int i = 0; i < 7; i++) {
-            n = m.call(1, n, -1);
+        for (int k = 0; k < 2; k++) {
+            Maker m = new Maker();
+            int p = m.parameter(k);
+            int n = p;
+            for (int i = 0; i < 7; i++) {
+                n = callWith(m, 1, k, n);
+            }
+            function(m, 0, k, n);
+            function(m, 1, k, m.pair(Maker.ADD, p, m.number(1)));
+            m.compiles("in arguments " + k, 0, 0, 2);
+            Sheet.due("seven, one after another", m.x.run(0, 1, 1), 8);
         }
-        m.function(0, 8, 400, 8, n);
-        m.function(1, 8, 400, 8, m.pair(Maker.ADD, p, m.number(1)));
-        m.compiles("in arguments", 0, 0, 2);
-        Sheet.due("seven, one after another", m.x.run(0, 1, 0), 8);
+    }
+
+    /** A CALL with argument k alone. */
+    private static int callWith(Maker m, int f, int k, int argument) {
+        return m.call(f, k == 0 ? argument : -1, k == 1 ? argument : -1);
+    }
+
+    /** A function with parameter k alone. */
+    private static void function(Maker m, int f, int k, int body) {
+        m.function(f, k == 0 ? 8 : 400, k == 1 ? 8 : 400, 8, body);
     }
 
     /** Function 5's CALL has a CALL as its argument: with five under way neither can be made. */
     private static void depthInArgument() {
-        Maker m = new Maker();
-        int p = m.parameter(0);
-        for (int f = 0; f < 5; f++) {
-            m.function(f, 8, 400, 8, m.call(f + 1, p, -1));
+        for (int k = 0; k < 2; k++) {
+            Maker m = new Maker();
+            int p = m.parameter(k);
+            for (int f = 0; f < 5; f++) {
+                function(m, f, k, callWith(m, f + 1, k, p));
+            }
+            function(m, 5, k, callWith(m, 6, k, callWith(m, 6, k, p)));
+            function(m, 6, k, p);
+            m.compiles("a chain", 0, 0, 7);
+            Sheet.due("five under way", m.x.run(0, 1, 1), DEPTH);
+            Sheet.due("four under way", m.x.run(1, 1, 1), 1);
         }
-        m.function(5, 8, 400, 8, m.call(6, m.call(6, p, -1), -1));
-        m.function(6, 8, 400, 8, p);
-        m.compiles("a chain", 0, 0, 7);
-        Sheet.due("five under way", m.x.run(0, 1, 0), DEPTH);
-        Sheet.due("four under way", m.x.run(1, 1, 0), 1);
     }
 }
