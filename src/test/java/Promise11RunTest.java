@@ -21,7 +21,6 @@ public final class Promise11RunTest {
         Sheet.test("Promise 11: CAST out of the range: OVERFLOW", Promise11RunTest::casts);
         Sheet.test("Promise 11: the first TRAP ends all", Promise11RunTest::firstTrap);
         Sheet.test("Promise 11: a run changes no instance", Promise11RunTest::again);
-        Sheet.test("Promise 11: the example of README.md", Promise11RunTest::readme);
         Sheet.finish();
     }
 
@@ -244,21 +243,5 @@ public final class Promise11RunTest {
         Sheet.due("instances", m.x.count(2), 1);
         Sheet.due("type", m.x.typeOf(0, body), 8);
         Sheet.due("known", m.x.known(0, body), NONE);
-    }
-
-    private static void readme() {
-        StagedCompiler x = new StagedCompiler();
-        int exponent = x.node(1, 0, 0, 0);
-        int base = x.node(1, 1, 0, 0);
-        int one = x.node(0, 1, 0, 0);
-        int isOver = x.node(11, exponent, one, 0);
-        int less = x.node(3, exponent, one, 0);
-        int rest = x.node(15, 0, less, base);
-        int product = x.node(4, base, rest, 0);
-        int body = x.node(13, isOver, one, product);
-        Sheet.due("define", x.define(0, 300, 16, 16, body), 0);
-        Sheet.due("compile", x.compile(0, 3, 0), 4);
-        Sheet.due("5 to the 3rd", x.run(0, 0, 5), 125);
-        Sheet.due("50 to the 3rd", x.run(0, 0, 50), OVERFLOW);
     }
 }
